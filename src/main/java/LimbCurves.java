@@ -182,7 +182,13 @@ public final class LimbCurves {
     order.reduce(left, scalarIn(e));
     order.multiply(left, left, right);
     order.multiply(right, signature, right);
-    if (!sumOfMultiples(left, pointIn(g), right, pointIn(q))) {
+    running.takeTimes(right, pointIn(q));
+    if (!running.writeTo(result)) {
+      return NO_SUM;
+    }
+    running.takeTimes(left, pointIn(g));
+    running.addPoint(result);
+    if (!running.writeTo(result)) {
       return NO_SUM;
     }
     order.reduce(left, result.x);
@@ -298,17 +304,6 @@ public final class LimbCurves {
     return !Numbers.isZero(number) && Numbers.compare(number, parameters[ORDER]) < 0;
   }
 
-  /** Leaves k times g plus m times q in result; false if there is no sum on the way. */
-  private boolean sumOfMultiples(int[] k, Point g, int[] m, Point q) {
-    running.takeTimes(m, q);
-    if (!running.writeTo(result)) {
-      return false;
-    }
-    running.takeTimes(k, g);
-    running.addPoint(result);
-    return running.writeTo(result);
-  }
-
   private void combineModuloOrder(int what) {
     if (what == PLUS) {
       order.add(left, left, right);
@@ -355,6 +350,17 @@ public final class LimbCurves {
         }
       }
       return 0;
+    }
+
+    /** Writes one plus other (sign 1) or less other (sign -1); answers what goes past the row. */
+    static long combine(int[] out, int[] one, int[] other, int sign) {
+      long carry = 0;
+      for (int i = 0; i < out.length; i++) {
+        carry += one[i] + (long) sign * other[i];
+        out[i] = (int) (carry & LIMB_MASK);
+        carry >>= LIMB_BITS;
+      }
+      return carry;
     }
 
     /** Limb i of the row times 2 to the gap. */
@@ -445,14 +451,9 @@ public final class LimbCurves {
     }
 
     void add(int[] out, int[] one, int[] other) {
-      long carry = 0;
-      for (int i = 0; i < out.length; i++) {
-        carry += (long) one[i] + other[i];
-        out[i] = (int) (carry & LIMB_MASK);
-        carry >>= LIMB_BITS;
-      }
+      long carry = Numbers.combine(out, one, other, 1);
       if (carry != 0 || Numbers.compare(out, modulus) >= 0) {
-        Numbers.addShifted(out, modulus, 0, -1);
+        Numbers.combine(out, out, modulus, -1);
       }
     }
 
@@ -466,14 +467,9 @@ public final class LimbCurves {
     }
 
     void subtract(int[] out, int[] one, int[] other) {
-      long borrow = 0;
-      for (int i = 0; i < out.length; i++) {
-        borrow += (long) one[i] - other[i];
-        out[i] = (int) (borrow & LIMB_MASK);
-        borrow >>= LIMB_BITS;
-      }
+      long borrow = Numbers.combine(out, one, other, -1);
       if (borrow != 0) {
-        Numbers.addShifted(out, modulus, 0, 1);
+        Numbers.combine(out, out, modulus, 1);
       }
     }
 
@@ -550,9 +546,11 @@ public final class LimbCurves {
 
     private void shiftWork(int length) {
       work[length] = 0;
-      for (int i = length; i >= 0; i--) {
-        work[i] = Numbers.shiftedLimb(work, i, shift);
+      for (int i = length; i > 0; i--) {
+        long pair = (long) work[i] << LIMB_BITS | work[i - 1];
+        work[i] = (int) ((pair >>> (LIMB_BITS - shift)) & LIMB_MASK);
       }
+      work[0] = (int) (((long) work[0] << shift) & LIMB_MASK);
     }
 
     private int unshiftedLimb(int i) {
@@ -775,6 +773,7 @@ public final class LimbCurves {
       field.multiply(otherY, other.y, s);
     }
 
+    /** The document's sum of a point and itself without its fractions; z takes in 2 y. */
     private void addItself() {
       if (identity) {
         return;
@@ -807,6 +806,7 @@ public final class LimbCurves {
       field.subtract(y, t, s);
     }
 
+    /** The document's sum for two X without its fractions; z takes in u - x. */
     private void addAlongChord() {
       field.multiply(z, z, run);
       field.multiply(s, run, run);
@@ -823,8 +823,8 @@ public final class LimbCurves {
     }
 
     /**
-     * Here x = u and y is not v. Y Y is the same for both, so (y + v) (y - v) is 0: y + v is 0 and
-     * the sum is the identity, or nothing makes 1 of it and there is no sum, as z = 0 tells.
+     * Here x = u and y is not v. Y Y is the same for both, so (y + v) (y - v) is 0: either y + v
+     * is 0 and the sum is the identity, or nothing makes 1 of it: NO SUM, which z = 0 tells.
      */
     private void addAtSameX() {
       field.add(s, otherY, y);

@@ -1,5 +1,6 @@
 import java.math.BigInteger;
 import java.util.ArrayList;
+import java.util.Arrays;
 import java.util.List;
 import java.util.Random;
 
@@ -17,7 +18,7 @@ public final class LimbCurvesModelRuns {
 
   private static int wrong = 0;
   private static long compared = 0;
-  private static final int[] accepted = new int[4];
+  private static final int[] verdicts = new int[4];
 
   /** A point of the model: a pair, or IDENTITY. */
   private record Pair(BigInteger x, BigInteger y) {}
@@ -144,7 +145,7 @@ public final class LimbCurvesModelRuns {
       if (k < 0 || k > 19 || (sealed && k < 4)) {
         return 0;
       }
-      java.util.Arrays.fill(rows[k], 0);
+      Arrays.fill(rows[k], 0);
       isPair[k] = false;
       fed = k;
       count = 0;
@@ -243,7 +244,7 @@ public final class LimbCurvesModelRuns {
       if (!isPoint(x) || !isPoint(y) || isPair[x] != isPair[y]) {
         return 0;
       }
-      return java.util.Arrays.equals(rows[x], rows[y]) ? 1 : 0;
+      return Arrays.equals(rows[x], rows[y]) ? 1 : 0;
     }
 
     int verify(int q, int g, int e, int r, int s) {
@@ -387,7 +388,7 @@ public final class LimbCurvesModelRuns {
       feed(2, b);
       feedOrder();
       due("seal()", desk.seal(), model.seal());
-      rememberPoints(x, y, a, b);
+      rememberPoints(x, y);
       for (int k = 4; k < 8; k++) {
         feedKnown(k);
       }
@@ -411,7 +412,7 @@ public final class LimbCurvesModelRuns {
       }
     }
 
-    void rememberPoints(BigInteger x, BigInteger y, BigInteger a, BigInteger b) {
+    void rememberPoints(BigInteger x, BigInteger y) {
       known.add(new Pair(x, y));
       known.add(new Pair(x, p.subtract(y).mod(p)));
       if (factor != null && !p.equals(factor.pow(2))) {
@@ -486,7 +487,7 @@ public final class LimbCurvesModelRuns {
 
     void verify(int q, int g, int e, int r, int s) {
       int want = model.verify(q, g, e, r, s);
-      accepted[want + 2]++;
+      verdicts[want + 2]++;
       String call = "verify(" + q + ", " + g + ", " + e + ", " + r + ", " + s + ")";
       due(call, desk.verify(q, g, e, r, s), want);
     }
@@ -595,9 +596,9 @@ public final class LimbCurvesModelRuns {
     for (int seed = 1; seed <= runs && wrong < 50; seed++) {
       new Run(seed).play();
     }
-    for (int i = 0; i < accepted.length; i++) {
-      System.out.println("verify was due to answer " + (i - 2) + ": " + accepted[i] + " times");
-      if (accepted[i] == 0) {
+    for (int i = 0; i < verdicts.length; i++) {
+      System.out.println("verify was due to answer " + (i - 2) + ": " + verdicts[i] + " times");
+      if (verdicts[i] == 0) {
         wrong++;
         System.out.println("the runs miss this answer");
       }
