@@ -557,7 +557,7 @@ public final class LimbCurves {
       return (int) ((((long) work[i + 1] << LIMB_BITS | work[i]) >>> shift) & LIMB_MASK);
     }
 
-    /** Takes guess times the divisor off work from limb at on; a guess is too great by 2 at most. */
+    /** Takes guess times the divisor off work from limb at on; a guess is 2 too great at most. */
     private void takeDivisorAway(long guess, int at) {
       long borrow = 0;
       for (int i = 0; i < size; i++) {
